@@ -45,6 +45,7 @@ public final class BestTest {
     }
 
     private static void anew() {
+        anew(Check.ring(5), 0, 0, 50, 0);
         // From 1 to 2: CARD 1, 4, 7, KING 2, 5, 8, any QUEEN; a JOKER and a KNAVE point to 0, a SEVEN blocks.
         anew(Check.ring(1, 0, 1), 1, 0, 16, 1);
         // As the first one a KNAVE is as a KING.

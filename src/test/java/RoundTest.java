@@ -11,6 +11,7 @@ public final class RoundTest {
         further();
         passes();
         passesOfEachCard();
+        passesBound();
         worth();
         whole();
         harvests();
@@ -129,6 +130,16 @@ public final class RoundTest {
         x = Check.ring(1, 0, 0, 0);
         Check.rule(x, "further 0;passes left=2;pays 1;");
         due(x, 0, DIED, 0, 1, 2);
+    }
+
+    // When only the place to the left of the aim is left, 15 must be passed.
+    private static void passesBound() {
+        int[] all = {0, 1, 2, 3, 4, 5, 6, 7, 8, 9, 10, 11, 12, 13, 14, 15};
+        int[] allButLast = {0, 1, 2, 3, 4, 5, 6, 7, 8, 9, 10, 11, 12, 13, 14};
+        int[] cards = {1, 1, 1, 1, 1, 1, 1, 1, 1, 1, 1, 1, 1, 1, 2, 1};
+        due(passing(14, cards), 0, HOME, allButLast);
+        due(passing(15, cards), 0, HARVEST, all);
+        due(passing(16, cards), 0, HARVEST, all);
     }
 
     private static void worth() {

@@ -68,6 +68,7 @@ public final class TextTest {
         fault("further 0;passes 0;pays 1", 25);
         fault("further 0;passes 0;pays 1;;", 26);
         fault("further 0;passes 0;pays 1; 0", 27);
+        fault("further 0;passes 0;pays 1;place", 26);
         fault("further 0;passes 0;pays 1; further 0;", 27);
         fault("further 0;passes 0;pays 1;\t", 26);
         fault("further 12345;", 8);
@@ -77,6 +78,9 @@ public final class TextTest {
         fault("further 1x;", 9);
         fault("further x1;", 8);
         fault("further pays;", 8);
+        fault("further bll;", 8);
+        fault("further allz;", 8);
+        fault("further further;", 8);
         fault("further lefts;", 8);
         fault("further lef;", 8);
         fault("further left left;", 13);
@@ -145,6 +149,8 @@ public final class TextTest {
         Check.due("text() of a blank", x.text(), -101);
         Check.due("text() of nothing", x.text(), -100);
         Check.due("the next text", Check.text(x, "further 0;passes 0;pays 1;"), 2);
+        Check.due("a fault amid open ones", Check.text(x, "further 1 or(((((1"), -118);
+        Check.due("a text then", Check.text(x, "further(((((1)))));passes 0;pays 1;"), 3);
     }
 
     private static void room() {

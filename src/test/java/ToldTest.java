@@ -8,6 +8,7 @@ public final class ToldTest {
         otherwise();
         starts();
         kindsAndNumbers();
+        numbersAsked();
         texts();
         film();
         drawn();
@@ -105,6 +106,15 @@ public final class ToldTest {
         // On 2 a KNAVE and a JOKER come to 0.
         Check.due("kinds on 2 of another round", x.tells(0, 12), 8 + 16 + 32);
         Check.due("told(2, 0) is untouched", x.told(2, 0), 0);
+    }
+
+    private static void numbersAsked() {
+        SevenInTheHay x = Check.ring(1, 2, 2);
+        x.anew(1, 0, 0);
+        Check.due("numbers on 0 asked first", sheet0(x, 0, 1).tells(0, 30), 2 + 16 + 128);
+        x = Check.ring(1, 2, 2);
+        x.hay(0, 0);
+        Check.due("kinds on 0 asked first", sheet0(x, 0, 1).tells(0, 10), 1 + 4);
     }
 
     private static void texts() {
