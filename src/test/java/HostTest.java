@@ -70,33 +70,21 @@ public final class HostTest {
         }
     }
 
-    /** What a sheet of bytes tells, as cards of kind 0, number by number. */
-    private static void dueItems(SevenInTheHay x, int sheet, int... items) {
-        int size = items.length;
-        for (int i = 0; i < size; i++) {
-            x.sheet(3, 0, 2);
-            Check.due("copy of item " + i, x.copy(sheet, i, 3, 1, 1), 1);
-            Check.due("card of item " + i, x.cards(3, 0, 0, 1), 1);
-            Check.due("item " + i, x.takeUp(), items[i]);
-        }
-        Check.due("no item more", x.cell(sheet, size, 0), -12);
-    }
-
     private static void copy() {
         SevenInTheHay x = new SevenInTheHay();
         Check.sheet(x, 0, 0, 1, 2, 3, 4, 5);
         Check.sheet(x, 1, 0, 9, 9, 9);
         Check.due("copy(0, 1, 1, 0, 2)", x.copy(0, 1, 1, 0, 2), 2);
-        dueItems(x, 1, 2, 3, 9);
+        Check.dueItems(x, 1, 0, 2, 3, 9);
         Check.due("copy(0, 0, 0, 1, 4)", x.copy(0, 0, 0, 1, 4), 4);
-        dueItems(x, 0, 1, 1, 2, 3, 4);
+        Check.dueItems(x, 0, 0, 1, 1, 2, 3, 4);
         Check.due("copy(0, 2, 0, 0, 3)", x.copy(0, 2, 0, 0, 3), 3);
-        dueItems(x, 0, 2, 3, 4, 3, 4);
+        Check.dueItems(x, 0, 0, 2, 3, 4, 3, 4);
         Check.due("copy(0, 0, 0, 0, 5)", x.copy(0, 0, 0, 0, 5), 5);
         Check.due("copy(0, 5, 1, 3, 0)", x.copy(0, 5, 1, 3, 0), 0);
         Check.due("copy(0, 4, 1, 2, 1)", x.copy(0, 4, 1, 2, 1), 1);
-        dueItems(x, 1, 2, 3, 4);
-        dueItems(x, 0, 2, 3, 4, 3, 4);
+        Check.dueItems(x, 1, 0, 2, 3, 4);
+        Check.dueItems(x, 0, 0, 2, 3, 4, 3, 4);
     }
 
     private static void copyRefusals() {
@@ -121,8 +109,8 @@ public final class HostTest {
             String call = "copy(0, " + o[0] + ", 1, " + o[1] + ", " + o[2] + ")";
             Check.due(call, x.copy(0, o[0], 1, o[1], o[2]), -12);
         }
-        dueItems(x, 0, 1, 2, 3);
-        dueItems(x, 1, 4, 5);
+        Check.dueItems(x, 0, 0, 1, 2, 3);
+        Check.dueItems(x, 1, 0, 4, 5);
     }
 
     private static void cards() {

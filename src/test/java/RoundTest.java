@@ -32,88 +32,72 @@ public final class RoundTest {
         Check.due("round(0, 12)", x.round(0, 12), NONE);
     }
 
-    /** The round's end and the places that it turns, in their order. */
-    private static void due(SevenInTheHay x, int from, int end, int... places) {
-        String round = "round from " + from + ": ";
-        int bits = 0;
-        for (int place : places) {
-            bits |= 1 << place;
-        }
-        Check.due(round + "end", x.round(from, 0), end);
-        Check.due(round + "long", x.round(from, 1), places.length);
-        Check.due(round + "last", x.round(from, 3), places[places.length - 1]);
-        Check.due(round + "bits", x.round(from, 4), bits);
-        for (int i = 0; i < 16; i++) {
-            Check.due(round + "place " + i, x.round(from, 10 + i), i < places.length ? places[i] : NONE);
-        }
-    }
-
     private static void ends() {
-        due(Check.ring(0), 0, HARVEST, 0);
-        due(Check.ring(9), 0, HARVEST, 0);
-        due(Check.ring(50), 0, BLOCKED, 0);
-        due(Check.ring(1, 1, 1), 1, HARVEST, 1, 2, 0);
-        due(Check.ring(1, 11, 0), 0, HOME, 0, 1);
-        due(Check.ring(1, 0, 0), 0, DIED, 0, 1);
-        due(Check.ring(0, 0), 1, HOME, 1);
-        due(Check.ring(1, 52, 1), 0, BLOCKED, 0, 1);
-        due(Check.ring(1, 1, 51), 0, BLOCKED, 0, 1, 2);
-        due(Check.ring(1, 1, 0), 0, DIED, 0, 1, 2);
+        Check.round(Check.ring(0), 0, HARVEST, 0);
+        Check.round(Check.ring(9), 0, HARVEST, 0);
+        Check.round(Check.ring(50), 0, BLOCKED, 0);
+        Check.round(Check.ring(1, 1, 1), 1, HARVEST, 1, 2, 0);
+        Check.round(Check.ring(1, 11, 0), 0, HOME, 0, 1);
+        Check.round(Check.ring(1, 0, 0), 0, DIED, 0, 1);
+        Check.round(Check.ring(0, 0), 1, HOME, 1);
+        Check.round(Check.ring(1, 52, 1), 0, BLOCKED, 0, 1);
+        Check.round(Check.ring(1, 1, 51), 0, BLOCKED, 0, 1, 2);
+        Check.round(Check.ring(1, 1, 0), 0, DIED, 0, 1, 2);
     }
 
     private static void kindsPoint() {
-        due(Check.ring(3, 0, 0, 0, 0), 0, DIED, 0, 3);
-        due(Check.ring(7, 0, 0, 0, 0), 0, DIED, 0, 2);
-        due(Check.ring(12, 0, 0, 0, 0), 0, DIED, 0, 3);
-        due(Check.ring(19, 0, 0, 0, 0), 0, DIED, 0, 1);
-        due(Check.ring(29, 0, 0, 0, 0), 0, DIED, 0, 2);
-        due(Check.ring(29, 0, 0, 0), 0, DIED, 0, 2);
-        due(Check.ring(49, 0, 0, 0, 0), 0, DIED, 0, 3);
-        due(Check.ring(40, 0), 0, HOME, 0);
-        due(Check.ring(40), 0, HARVEST, 0);
+        Check.round(Check.ring(3, 0, 0, 0, 0), 0, DIED, 0, 3);
+        Check.round(Check.ring(7, 0, 0, 0, 0), 0, DIED, 0, 2);
+        Check.round(Check.ring(12, 0, 0, 0, 0), 0, DIED, 0, 3);
+        Check.round(Check.ring(19, 0, 0, 0, 0), 0, DIED, 0, 1);
+        Check.round(Check.ring(29, 0, 0, 0, 0), 0, DIED, 0, 2);
+        Check.round(Check.ring(29, 0, 0, 0), 0, DIED, 0, 2);
+        Check.round(Check.ring(49, 0, 0, 0, 0), 0, DIED, 0, 3);
+        Check.round(Check.ring(40, 0), 0, HOME, 0);
+        Check.round(Check.ring(40), 0, HARVEST, 0);
     }
 
     private static void knave() {
-        due(Check.ring(33, 0, 0, 0, 0), 0, DIED, 0, 2);
-        due(Check.ring(30, 0), 0, HOME, 0);
-        due(Check.ring(2, 0, 39, 0), 0, HOME, 0, 2);
-        due(Check.ring(1, 1, 39, 0), 0, DIED, 0, 1, 2);
+        Check.round(Check.ring(33, 0, 0, 0, 0), 0, DIED, 0, 2);
+        Check.round(Check.ring(30, 0), 0, HOME, 0);
+        Check.round(Check.ring(2, 0, 39, 0), 0, HOME, 0, 2);
+        Check.round(Check.ring(1, 1, 39, 0), 0, DIED, 0, 1, 2);
         SevenInTheHay back = Check.ring(2, 2, 39, 0);
         Check.rule(back, "further place=2;passes 0;pays 1;");
-        due(back, 0, DIED, 0, 2, 1, 3);
+        Check.round(back, 0, DIED, 0, 2, 1, 3);
         // The knave is sent back to the place it was turned from, not to the one that was aimed at.
         SevenInTheHay passed = Check.ring(1, 0, 35, 0);
         Check.rule(passed, "further (step=2)*2;passes step<2;pays 1;");
-        due(passed, 0, DIED, 0, 1, 2, 3);
+        Check.round(passed, 0, DIED, 0, 1, 2, 3);
     }
 
     private static void further() {
         SevenInTheHay x = Check.ring(1, 1, 1, 1, 1);
         Check.rule(x, "further 1;passes 0;pays 1;");
-        due(x, 0, HARVEST, 0, 2, 4, 1, 3);
+        Check.round(x, 0, HARVEST, 0, 2, 4, 1, 3);
         x = Check.ring(1, 1, 1, 1, 1);
         Check.rule(x, "further -2;passes 0;pays 1;");
-        due(x, 0, HARVEST, 0, 4, 3, 2, 1);
+        Check.round(x, 0, HARVEST, 0, 4, 3, 2, 1);
         int[][] bounds = {{19, 3}, {20, 4}, {21, 4}, {9999, 4}, {-19, 13}, {-20, 12}, {-21, 12}, {-9999, 12}};
         for (int[] bound : bounds) {
             x = Check.ring(0, 0, 0, 0, 0, 0, 0, 0, 0, 0, 0, 0, 0, 0, 0, 0);
             Check.rule(x, "further (step=0)*" + bound[0] + ";passes 0;pays 1;");
-            due(x, 0, DIED, 0, bound[1]);
+            Check.round(x, 0, DIED, 0, bound[1]);
         }
     }
 
     private static void passes() {
         int[] cards = {1, 1, 1, 13, 0, 0};
-        due(passing(2, cards), 0, HOME, 0, 1, 2, 3);
-        due(passing(3, cards), 0, HOME, 0, 1, 2, 3);
-        due(passing(4, cards), 0, DIED, 0, 1, 2, 3, 4, 5);
-        due(passing(-1, 0, 0), 0, HOME, 0);
-        due(passing(1, 0, 0), 0, DIED, 0, 1);
-        due(passing(9999, 0, 0, 0), 1, DIED, 1, 2, 0);
-        due(passing(5, 0, 2, 0, 0, 0), 1, DIED, 1, 3, 4, 0, 2);
-        due(passing(3, 1, 1, 12), 0, HARVEST, 0, 1, 2);
+        Check.round(passing(2, cards), 0, HOME, 0, 1, 2, 3);
+        Check.round(passing(3, cards), 0, HOME, 0, 1, 2, 3);
+        Check.round(passing(4, cards), 0, DIED, 0, 1, 2, 3, 4, 5);
+        Check.round(passing(-1, 0, 0), 0, HOME, 0);
+        Check.round(passing(1, 0, 0), 0, DIED, 0, 1);
+        Check.round(passing(9999, 0, 0, 0), 1, DIED, 1, 2, 0);
+        Check.round(passing(5, 0, 2, 0, 0, 0), 1, DIED, 1, 3, 4, 0, 2);
+        Check.round(passing(3, 1, 1, 12), 0, HARVEST, 0, 1, 2);
         // What is aimed at is turned first, however many may be passed.
-        due(passing(15, 2, 11, 1, 1), 0, HARVEST, 0, 2, 3, 1);
+        Check.round(passing(15, 2, 11, 1, 1), 0, HARVEST, 0, 2, 3, 1);
     }
 
     private static SevenInTheHay passing(int passes, int... cards) {
@@ -126,10 +110,10 @@ public final class RoundTest {
     private static void passesOfEachCard() {
         SevenInTheHay x = Check.ring(1, 0, 0, 0);
         Check.rule(x, "further 0;passes place=1;pays 1;");
-        due(x, 0, DIED, 0, 1, 2);
+        Check.round(x, 0, DIED, 0, 1, 2);
         x = Check.ring(1, 0, 0, 0);
         Check.rule(x, "further 0;passes left=2;pays 1;");
-        due(x, 0, DIED, 0, 1, 2);
+        Check.round(x, 0, DIED, 0, 1, 2);
     }
 
     // When only the place to the left of the aim is left, 15 must be passed.
@@ -137,9 +121,9 @@ public final class RoundTest {
         int[] all = {0, 1, 2, 3, 4, 5, 6, 7, 8, 9, 10, 11, 12, 13, 14, 15};
         int[] allButLast = {0, 1, 2, 3, 4, 5, 6, 7, 8, 9, 10, 11, 12, 13, 14};
         int[] cards = {1, 1, 1, 1, 1, 1, 1, 1, 1, 1, 1, 1, 1, 1, 2, 1};
-        due(passing(14, cards), 0, HOME, allButLast);
-        due(passing(15, cards), 0, HARVEST, all);
-        due(passing(16, cards), 0, HARVEST, all);
+        Check.round(passing(14, cards), 0, HOME, allButLast);
+        Check.round(passing(15, cards), 0, HARVEST, all);
+        Check.round(passing(16, cards), 0, HARVEST, all);
     }
 
     private static void worth() {
@@ -156,7 +140,7 @@ public final class RoundTest {
         worth("-1000", 40, -198);
         worth("-1000", 55, -106);
         SevenInTheHay x = Check.ring(1, 12, 53, 0, 0, 20);
-        due(x, 0, BLOCKED, 0, 1, 5, 2);
+        Check.round(x, 0, BLOCKED, 0, 1, 5, 2);
         Check.due("worth from 0 by text 0", x.round(0, 2), 1 + 3 + 2 - 6);
         Check.due("worth from 5 by text 0", x.round(5, 2), 2 - 6);
     }
@@ -174,7 +158,7 @@ public final class RoundTest {
             x.card(0, 1);
             places[i] = (i + 5) % 16;
         }
-        due(x, 5, HARVEST, places);
+        Check.round(x, 5, HARVEST, places);
     }
 
     private static void harvests() {

@@ -29,116 +29,101 @@ public final class TextTest {
     }
 
     private static void rightTexts() {
-        right("further 0 ; passes 0 ; pays 1 ;");
-        right("further0;passes0;pays1;");
-        right("\n further\n0 ;passes 0;pays 1; \n ");
-        right("further 0000;passes 9999;pays number;");
-        right("further not not place<from and step=number or left+all*2-1;passes(((((1)))));pays-----1;");
-        right("further not(all);passes 1 - -1;pays 1<2 and not 3=4;");
-        right("further not 1 and not 1 and not 1 and not 1 and not 1 and not 1;passes 0;pays 0;");
-        right("further -1*-1*-1*-1*-1*-1--1;passes(1)*(1)*(1)*(1)*(1)*(1);pays 1;");
-        StringBuilder long160 = new StringBuilder("further 0;passes 0;pays 1");
-        while (long160.length() < 159) {
-            long160.append(long160.length() % 2 == 1 ? '+' : '1');
-        }
-        right(long160.append(';').toString());
-    }
-
-    private static void right(String tape) {
-        Check.due("text() of " + tape, Check.text(new SevenInTheHay(), tape), 1);
+        Texts.right("further 0 ; passes 0 ; pays 1 ;");
+        Texts.right("further0;passes0;pays1;");
+        Texts.right("\n further\n0 ;passes 0;pays 1; \n ");
+        Texts.right("further 0000;passes 9999;pays number;");
+        Texts.right("further not not place<from and step=number or left+all*2-1;passes(((((1)))));pays-----1;");
+        Texts.right("further not(all);passes 1 - -1;pays 1<2 and not 3=4;");
+        Texts.right("further not 1 and not 1 and not 1 and not 1 and not 1 and not 1;passes 0;pays 0;");
+        Texts.right("further -1*-1*-1*-1*-1*-1--1;passes(1)*(1)*(1)*(1)*(1)*(1);pays 1;");
+        Texts.right(Texts.ofLength(Texts.LONGEST));
     }
 
     private static void faults() {
-        fault("", 0);
-        fault("  ", 2);
-        fault("passes 0;", 0);
-        fault(" or", 1);
-        fault("Further 0;", 0);
-        fault("furthe 0;", 0);
-        fault("furtherr 0;", 0);
-        fault("further", 7);
-        fault("further ", 8);
-        fault("further ;", 8);
-        fault("further 0", 9);
-        fault("further 0 passes", 10);
-        fault("further 0;", 10);
-        fault("further 0;;", 10);
-        fault("further 0;pays 0;", 10);
-        fault("further 0;passes 0;", 19);
-        fault("further 0;passes 0;pays 1", 25);
-        fault("further 0;passes 0;pays 1;;", 26);
-        fault("further 0;passes 0;pays 1; 0", 27);
-        fault("further 0;passes 0;pays 1;place", 26);
-        fault("further 0;passes 0;pays 1; further 0;", 27);
-        fault("further 0;passes 0;pays 1;\t", 26);
-        fault("further 12345;", 8);
-        fault("further 00000;", 8);
-        fault("further 1 2;", 10);
-        fault("further 1 12345;", 10);
-        fault("further 1x;", 9);
-        fault("further x1;", 8);
-        fault("further pays;", 8);
-        fault("further bll;", 8);
-        fault("further allz;", 8);
-        fault("further further;", 8);
-        fault("further lefts;", 8);
-        fault("further lef;", 8);
-        fault("further left left;", 13);
-        fault("further (1;", 10);
-        fault("further 1);", 9);
-        fault("further ();", 9);
-        fault("further (1", 10);
-        fault("further 1+;", 10);
-        fault("further +1;", 8);
-        fault("further 1+*2;", 10);
-        fault("further 1<2<3;", 11);
-        fault("further 1<2=3;", 11);
-        fault("further 1=2<3;", 11);
-        fault("further not 1<2<3;", 15);
-        fault("further 1<;", 10);
-        fault("further 1 not 2;", 10);
-        fault("further 1+not 2;", 10);
-        fault("further 1*not 2;", 10);
-        fault("further 1<not 2;", 10);
-        fault("further -not 2;", 9);
-        fault("further not;", 11);
-        fault("further or 1;", 8);
-        fault("further 1 or or 1;", 13);
-        fault("further 1 and;", 13);
-        fault("further 1 or and 1;", 13);
-        fault("further 1 > 2;", 10);
-        fault("further 1 # x;", 10);
-        fault("further \r1;", 8);
-        fault("further 1;passes 0; pays !", 25);
-        fault("further 1;\0", 10);
-        fault("further 1;\u00ff", 10);
-    }
-
-    private static void fault(String tape, int place) {
-        SevenInTheHay x = new SevenInTheHay();
-        Check.due("text() of " + tape, Check.text(x, tape), -100 - place);
-        Check.due("count(2) after the fault", x.count(2), 0);
-        Check.due("count(1) after the fault", x.count(1), 1);
+        Texts.fault("", 0);
+        Texts.fault("  ", 2);
+        Texts.fault("passes 0;", 0);
+        Texts.fault(" or", 1);
+        Texts.fault("Further 0;", 0);
+        Texts.fault("furthe 0;", 0);
+        Texts.fault("furtherr 0;", 0);
+        Texts.fault("further", 7);
+        Texts.fault("further ", 8);
+        Texts.fault("further ;", 8);
+        Texts.fault("further 0", 9);
+        Texts.fault("further 0 passes", 10);
+        Texts.fault("further 0;", 10);
+        Texts.fault("further 0;;", 10);
+        Texts.fault("further 0;pays 0;", 10);
+        Texts.fault("further 0;passes 0;", 19);
+        Texts.fault("further 0;passes 0;pays 1", 25);
+        Texts.fault("further 0;passes 0;pays 1;;", 26);
+        Texts.fault("further 0;passes 0;pays 1; 0", 27);
+        Texts.fault("further 0;passes 0;pays 1;place", 26);
+        Texts.fault("further 0;passes 0;pays 1; further 0;", 27);
+        Texts.fault("further 0;passes 0;pays 1;\t", 26);
+        Texts.fault("further 12345;", 8);
+        Texts.fault("further 00000;", 8);
+        Texts.fault("further 1 2;", 10);
+        Texts.fault("further 1 12345;", 10);
+        Texts.fault("further 1x;", 9);
+        Texts.fault("further x1;", 8);
+        Texts.fault("further pays;", 8);
+        Texts.fault("further bll;", 8);
+        Texts.fault("further allz;", 8);
+        Texts.fault("further further;", 8);
+        Texts.fault("further lefts;", 8);
+        Texts.fault("further lef;", 8);
+        Texts.fault("further left left;", 13);
+        Texts.fault("further (1;", 10);
+        Texts.fault("further 1);", 9);
+        Texts.fault("further ();", 9);
+        Texts.fault("further (1", 10);
+        Texts.fault("further 1+;", 10);
+        Texts.fault("further +1;", 8);
+        Texts.fault("further 1+*2;", 10);
+        Texts.fault("further 1<2<3;", 11);
+        Texts.fault("further 1<2=3;", 11);
+        Texts.fault("further 1=2<3;", 11);
+        Texts.fault("further not 1<2<3;", 15);
+        Texts.fault("further 1<;", 10);
+        Texts.fault("further 1 not 2;", 10);
+        Texts.fault("further 1+not 2;", 10);
+        Texts.fault("further 1*not 2;", 10);
+        Texts.fault("further 1<not 2;", 10);
+        Texts.fault("further -not 2;", 9);
+        Texts.fault("further not;", 11);
+        Texts.fault("further or 1;", 8);
+        Texts.fault("further 1 or or 1;", 13);
+        Texts.fault("further 1 and;", 13);
+        Texts.fault("further 1 or and 1;", 13);
+        Texts.fault("further 1 > 2;", 10);
+        Texts.fault("further 1 # x;", 10);
+        Texts.fault("further \r1;", 8);
+        Texts.fault("further 1;passes 0; pays !", 25);
+        Texts.fault("further 1;\0", 10);
+        Texts.fault("further 1;\u00ff", 10);
     }
 
     // 5 may be open, a 6th is a fault: of ( , not, - and of all of them together.
     private static void openOnes() {
-        right("further (((((1)))));passes 0;pays 0;");
-        fault("further ((((((1))))));passes 0;pays 0;", 13);
-        right("further -----1;passes 0;pays 0;");
-        fault("further ------1;passes 0;pays 0;", 13);
-        right("further not not not not not 1;passes 0;pays 0;");
-        fault("further not not not not not not 1;passes 0;pays 0;", 28);
-        right("further not(-(not 1));passes 0;pays 0;");
-        fault("further not(-(not -(1)));passes 0;pays 0;", 18);
-        fault("further not(-(not(-1)));passes 0;pays 0;", 17);
-        fault("further not 1<((((-1))));passes 0;pays 0;", 18);
-        right("further (not 1)and((((-1))));passes 0;pays 0;");
-        right("further not 1 and((((-1))));passes 0;pays 0;");
-        right("further -1+((((-1))));passes 0;pays 0;");
-        fault("further (-1+((((-1)))));passes 0;pays 0;", 16);
-        right("further -1*((((-1))))or-----1;passes(((((1)))));pays -----1;");
-        fault("further -(((((1)))));passes 0;pays 0;", 13);
+        Texts.right("further (((((1)))));passes 0;pays 0;");
+        Texts.fault("further ((((((1))))));passes 0;pays 0;", 13);
+        Texts.right("further -----1;passes 0;pays 0;");
+        Texts.fault("further ------1;passes 0;pays 0;", 13);
+        Texts.right("further not not not not not 1;passes 0;pays 0;");
+        Texts.fault("further not not not not not not 1;passes 0;pays 0;", 28);
+        Texts.right("further not(-(not 1));passes 0;pays 0;");
+        Texts.fault("further not(-(not -(1)));passes 0;pays 0;", 18);
+        Texts.fault("further not(-(not(-1)));passes 0;pays 0;", 17);
+        Texts.fault("further not 1<((((-1))));passes 0;pays 0;", 18);
+        Texts.right("further (not 1)and((((-1))));passes 0;pays 0;");
+        Texts.right("further not 1 and((((-1))));passes 0;pays 0;");
+        Texts.right("further -1+((((-1))));passes 0;pays 0;");
+        Texts.fault("further (-1+((((-1)))));passes 0;pays 0;", 16);
+        Texts.right("further -1*((((-1))))or-----1;passes(((((1)))));pays -----1;");
+        Texts.fault("further -(((((1)))));passes 0;pays 0;", 13);
     }
 
     private static void emptyTape() {
@@ -167,64 +152,58 @@ public final class TextTest {
     }
 
     private static void values() {
-        value("0", 0);
-        value("99", 99);
-        value("100", 99);
-        value("-99", -99);
-        value("-100", -99);
-        value("9999", 99);
-        value("0012", 12);
-        value("2+3*4", 14);
-        value("(2+3)*4", 20);
-        value("20-3-4", 13);
-        value("20-(3-4)", 21);
-        value("2--3", 5);
-        value("-2*-3", 6);
-        value("-2*3", -6);
-        value("-(2+3)", -5);
-        value("1<2", 1);
-        value("2<2", 0);
-        value("3<2", 0);
-        value("2=2", 1);
-        value("2=3", 0);
-        value("1+1=2", 1);
-        value("7*(3<4)", 7);
-        value("5 and 7", 1);
-        value("5 and 0", 0);
-        value("0 and 7", 0);
-        value("5 or 0", 1);
-        value("0 or -7", 1);
-        value("0 or 0", 0);
-        value("not 0", 1);
-        value("not 5", 0);
-        value("not -5", 0);
-        value("not not 5", 1);
-        value("not 1=2", 1);
-        value("not 2<1 and 0", 0);
-        value("not (2<1 and 0)", 1);
-        value("not 0 and 0", 0);
-        value("1 or 1 and 0", 1);
-        value("(1 or 1) and 0", 0);
-        value("0 and 0 or 1", 1);
-        value("1<2 and 2<3", 1);
-        value("5", 5);
-        value("(5)", 5);
-        value("0-5-5<0", 1);
+        Texts.value("0", 0);
+        Texts.value("99", 99);
+        Texts.value("100", 99);
+        Texts.value("-99", -99);
+        Texts.value("-100", -99);
+        Texts.value("9999", 99);
+        Texts.value("0012", 12);
+        Texts.value("2+3*4", 14);
+        Texts.value("(2+3)*4", 20);
+        Texts.value("20-3-4", 13);
+        Texts.value("20-(3-4)", 21);
+        Texts.value("2--3", 5);
+        Texts.value("-2*-3", 6);
+        Texts.value("-2*3", -6);
+        Texts.value("-(2+3)", -5);
+        Texts.value("1<2", 1);
+        Texts.value("2<2", 0);
+        Texts.value("3<2", 0);
+        Texts.value("2=2", 1);
+        Texts.value("2=3", 0);
+        Texts.value("1+1=2", 1);
+        Texts.value("7*(3<4)", 7);
+        Texts.value("5 and 7", 1);
+        Texts.value("5 and 0", 0);
+        Texts.value("0 and 7", 0);
+        Texts.value("5 or 0", 1);
+        Texts.value("0 or -7", 1);
+        Texts.value("0 or 0", 0);
+        Texts.value("not 0", 1);
+        Texts.value("not 5", 0);
+        Texts.value("not -5", 0);
+        Texts.value("not not 5", 1);
+        Texts.value("not 1=2", 1);
+        Texts.value("not 2<1 and 0", 0);
+        Texts.value("not (2<1 and 0)", 1);
+        Texts.value("not 0 and 0", 0);
+        Texts.value("1 or 1 and 0", 1);
+        Texts.value("(1 or 1) and 0", 0);
+        Texts.value("0 and 0 or 1", 1);
+        Texts.value("1<2 and 2<3", 1);
+        Texts.value("5", 5);
+        Texts.value("(5)", 5);
+        Texts.value("0-5-5<0", 1);
     }
 
     // 9999 * 9999 * 9999 is 999700029999, of which 32 bits are -1027349969.
     private static void wrapping() {
-        value("9999*9999*9999<0", 1);
-        value("9999*9999*9999+9999*9999*10+9999*2755+2714", 0);
-        value("9999*9999*9999+9999*9999*10+9999*2755+2721", 7);
-        value("9999*9999*21+9999*9999<0", 1);
-        value("0-9999*9999*21-9999*9999<0", 0);
-    }
-
-    private static void value(String e, int due) {
-        SevenInTheHay x = Check.ring(0);
-        Check.rule(x, "further 0;passes 0;pays " + e + ";");
-        Check.due("pays " + e, x.round(0, 2), due);
+        Texts.value("9999*9999*9999<0", 1);
+        Texts.value("9999*9999*9999+9999*9999*10+9999*2755+2714", 0);
+        Texts.value("9999*9999*9999+9999*9999*10+9999*2755+2721", 7);
+        Texts.value("9999*9999*21+9999*9999<0", 1);
+        Texts.value("0-9999*9999*21-9999*9999<0", 0);
     }
 
     // From 2 on: 2, 4, 0, 1. Each text pays the name's value as it is turned, so WORTH is their sum.

@@ -217,7 +217,7 @@ public final class ToldTest {
         x.force(2);
         Check.due("count(0) ahead", x.count(0), 4);
         Check.due("back()", x.back(), 3);
-        dueCards(x, 1, 12, 23);
+        Check.dueCards(x, 1, 12, 23);
         Check.due("the rule is back", x.count(3), 1);
         Check.due("texts stay", x.count(1), 3);
         x.takeUp();
@@ -226,7 +226,7 @@ public final class ToldTest {
         x.feed(32);
         x.sheet(0, 0, 1);
         Check.due("back() again", x.back(), 3);
-        dueCards(x, 1, 12, 23);
+        Check.dueCards(x, 1, 12, 23);
         Check.due("the tape stays", x.count(2), 1);
         Check.due("sheets stay", x.cell(0, 0, 0), 1);
         x.takeUp();
@@ -235,23 +235,16 @@ public final class ToldTest {
         x.card(0, 0);
         x.force(2);
         Check.due("back() to the other", x.back(), 2);
-        dueCards(x, 1, 12);
+        Check.dueCards(x, 1, 12);
         Check.due("the rule then", x.count(3), 0);
         x.lay(0, 3, 3);
         Check.due("lay is not of the image", x.back(), 2);
-        dueCards(x, 1, 12);
+        Check.dueCards(x, 1, 12);
         SevenInTheHay none = new SevenInTheHay();
         Check.due("image() of none", none.image(), 0);
         none.card(0, 0);
         Check.due("back() to none", none.back(), 0);
         Check.due("count(0) then", none.count(0), 0);
-    }
-
-    private static void dueCards(SevenInTheHay x, int... cards) {
-        Check.due("count(0)", x.count(0), cards.length);
-        for (int i = 0; i < cards.length; i++) {
-            Check.due("card on " + i, 10 * x.told(i, 0) + x.told(i, 1), cards[i]);
-        }
     }
 
     private static void count() {
