@@ -74,7 +74,7 @@ public final class RingEdgeTest {
             for (int place : new int[] {0, n - 1}) {
                 isPlace(x, place);
             }
-            for (int place : new int[] {-1, n, MIN, MAX}) {
+            for (int place : new int[] {-2, -1, n, n + 1, 16, MIN, MAX}) {
                 isNoPlace(x, place);
             }
         }

@@ -237,7 +237,9 @@ public final class TextEdgeTest {
             Texts.fault("further 0 " + name + ";" + REST, 10);
             Texts.fault("further " + name.substring(1) + ";" + REST, 8);
             Texts.fault("further " + name.substring(0, name.length() - 1) + ";" + REST, 8);
+            Texts.fault("further x" + name.substring(1) + ";" + REST, 8);
             Texts.fault("further " + name + "s;" + REST, 8);
+            Texts.fault("further 0;" + REST + name, 26);
         }
         for (String key : new String[] {"further", "passes", "pays", "or", "and"}) {
             Texts.fault("further " + key + ";" + REST, 8);
@@ -387,7 +389,8 @@ public final class TextEdgeTest {
         Check.due("text() of the empty TAPE again", x.text(), -100);
         Check.due("a FAULT", Check.text(x, "further 0;passes 0;pays 1;!"), -126);
         Check.due("count(2) behind the FAULT", x.count(2), 0);
-        Check.due("a right one", Check.text(x, "further 0;passes 0;pays 2;"), 1);
+        Check.due("a FAULT while five are open", Check.text(x, "further 1 or(((((!"), -117);
+        Check.due("a right one", Check.text(x, "further (((((0)))));passes 0;pays 2;"), 1);
         Check.due("count(2) behind the right one", x.count(2), 0);
         Check.due("text() of nothing more", x.text(), -100);
         Check.due("a part", Check.text(x, "further 0;"), -110);
