@@ -333,6 +333,13 @@ public final class RoundEdgeTest {
         x.lay(14, 1, 1);
         Check.due("best(0), the first of the two", x.best(0), 14);
         Check.due("best(1)", x.best(1), 2);
+        // More, then fewer: it is neither the last one nor the last that differs.
+        SevenInTheHay fewer = Check.ring(1, 1, 0);
+        Check.due("best(0), the first of 3, 2, 1", fewer.best(0), 0);
+        Check.due("best(1), the most of 3, 2, 1", fewer.best(1), 3);
+        SevenInTheHay amid = Check.ring(0, 1, 1, 0, 1);
+        Check.due("best(0), amid 1, 3, 2, 1, 2", amid.best(0), 1);
+        Check.due("best(1), amid 1, 3, 2, 1, 2", amid.best(1), 3);
         SevenInTheHay all = Check.ringOf(16, 1);
         Check.due("best(0) of all", all.best(0), 0);
         Check.due("best(1) of all", all.best(1), 16);

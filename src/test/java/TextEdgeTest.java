@@ -26,6 +26,8 @@ public final class TextEdgeTest {
         Check.test("FAULT: \"a ( , a not, a - ahead of a ONE while 5 of these are open\"", TextEdgeTest::fiveOpen);
         Check.test("FAULT: \"(a ( till its ) , not and - till what they belong to ends)\"", TextEdgeTest::tillTheyEnd);
         Check.test("Promise 8, text: \"THE TAPE, which is empty then (by a FAULT, too)\"", TextEdgeTest::emptyThen);
+        Check.test("Promise 8, text: \"empty then (by a FAULT, too)\": the next TEXT has nothing of it",
+            TextEdgeTest::nothingIsLeft);
         Check.test("Promise 8, text: \"-100 less the place of its FAULT\"", TextEdgeTest::placesOfFaults);
         Check.test("\"There are 6 TEXTS at most, TEXT 0 with them\"; promise 8: \"its number\"", TextEdgeTest::sixTexts);
         Check.test("Promise 8, text: \"FULL (ahead of all): .. (THE TAPE stays)\"", TextEdgeTest::fullAheadOfAll);
@@ -398,6 +400,21 @@ public final class TextEdgeTest {
         Check.due("count(1)", x.count(1), 2);
         Check.due("a full TAPE that faults", Check.text(x, Texts.padded("further", 160)), -260);
         Check.due("feed(32) then", x.feed(32), 1);
+    }
+
+    // What faulted was read further than the right text goes: there - or not stood where that one ends.
+    private static void nothingIsLeft() {
+        String[] faulty = {
+            "further 1;passes 1;pays -1;!", "further 1;passes 1;pays not 1;!", "further 1;passes 1;pays 1+2+3*4;!",
+            "further -1;passes -1;pays -1+2;!", "further not 1;passes 1<2;pays 1<2;!", "further 1+2*3+4 and 5 or 6;!"
+        };
+        for (String tape : faulty) {
+            SevenInTheHay x = Check.ring(0);
+            Check.due("text() of " + tape, Check.text(x, tape), -100 - tape.indexOf('!'));
+            Check.rule(x, "further 0;passes 0;pays 5;");
+            Check.due("worth behind " + tape, x.round(0, 2), 5);
+            Check.round(x, 0, 0, 0);
+        }
     }
 
     private static void placesOfFaults() {
