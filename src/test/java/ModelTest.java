@@ -59,7 +59,8 @@ public final class ModelTest {
             feedAll(new TextMaker(random).text());
         }
         int kinds = style == 3 ? 22 : 26;
-        while (calls < CALLS) {
+        // Some kinds of calls are two: none may be a 513th, of which nothing is promised.
+        while (calls < CALLS - 1) {
             int kind = upTo(kinds);
             if (kind < 6) {
                 callOfRing(kind);

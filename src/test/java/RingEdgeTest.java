@@ -12,6 +12,7 @@ public final class RingEdgeTest {
         Check.test("1 THE RING: \"16 at most\"; promise 2, card: \"FULL\"", RingEdgeTest::sixteen);
         Check.test("1 THE RING: \"to the right of the last one is the first\"", RingEdgeTest::around);
         Check.test("\"An object is used for at most 512 calls\"", RingEdgeTest::lastCall);
+        Check.test("\"An object is used for at most 512 calls\", however dear they are", RingEdgeTest::lastDearCall);
         Check.test("Terms: \"CARDS have a KIND: 0 CARD, .. 5 SEVEN\"; promises 2, 3: \"BAD\"", RingEdgeTest::kinds);
         Check.test("Terms: \"a NUMBER (0 .. 9)\"; promises 2, 3: \"BAD\"", RingEdgeTest::numbers);
         Check.test("POINTS: \"CARD: NUMBER\", \"SEVEN: as a CARD\"", RingEdgeTest::pointsToTheRight);
@@ -154,6 +155,24 @@ public final class RingEdgeTest {
             x.lay(0, call % 6, call % 10);
         }
         Check.due("lay(0, 0, 0), the 512th", x.lay(0, 0, 0), 10 * (511 % 6) + 511 % 10);
+    }
+
+    private static void lastDearCall() {
+        SevenInTheHay x = Check.ringOf(6, 1);
+        for (int call = 7; call <= 512; call++) {
+            int what = call % 2;
+            Check.due("layings(" + what + "), call " + call, x.layings(what), what == 0 ? 720 : 123456);
+        }
+        SevenInTheHay full = Check.ringOf(16, 1);
+        for (int call = 17; call <= 512; call++) {
+            int part = call % 2;
+            switch (call % 4) {
+                case 0: Check.due("anew, call " + call, full.anew(15, 0, 0), 1); break;
+                case 1: Check.due("change, call " + call, full.change(0, 1), 16); break;
+                case 2: Check.due("chance, call " + call, full.chance(call, 20, part), 1); break;
+                default: Check.due("drawn, call " + call, full.drawn(call), 16);
+            }
+        }
     }
 
     private static void kinds() {
